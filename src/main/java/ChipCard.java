@@ -510,6 +510,11 @@ public final class ChipCard {
         boolean wantsBytes() {
             return wanted != NONE;
         }
+
+        /** P1 P2 as a number. */
+        int place() {
+            return p1 * 256 + p2;
+        }
     }
 
     /** A FILE; the records of a RING are always held with the latest one first. */
@@ -735,7 +740,7 @@ public final class ChipCard {
             return right == ALWAYS || right == BEHIND_PIN && verified;
         }
 
-        private boolean namesPin(Request r) {
+        private static boolean namesPin(Request r) {
             return r.p1 == 0x00 && r.p2 == 0x01;
         }
 
@@ -831,19 +836,19 @@ public final class ChipCard {
             if (!r.wantsBytes()) {
                 return WRONG_LENGTH;
             }
-            if (file == null) {
+            CardFile from = file;
+            if (from == null) {
                 return NO_FILE_AT_HAND;
             }
-            int asked = askBytes(file.read, r);
+            int asked = askBytes(from, from.read, r.place());
             if (asked != DONE) {
                 return asked;
             }
-            int place = r.p1 * 256 + r.p2;
-            int left = file.size - place;
+            int left = from.size - r.place();
             if (r.wanted != ALL_WANTED && r.wanted > left) {
                 return WRONG_WANTED + left;
             }
-            tellBytes(place, Math.min(r.wanted, left));
+            tellBytes(from, r.place(), Math.min(r.wanted, left));
             return DONE;
         }
 
@@ -851,18 +856,18 @@ public final class ChipCard {
             if (!r.hasData()) {
                 return WRONG_LENGTH;
             }
-            if (file == null) {
+            CardFile to = file;
+            if (to == null) {
                 return NO_FILE_AT_HAND;
             }
-            int asked = askBytes(file.write, r);
+            int asked = askBytes(to, to.write, r.place());
             if (asked != DONE) {
                 return asked;
             }
-            int place = r.p1 * 256 + r.p2;
-            if (place + r.data.length() > file.size) {
+            if (r.place() + r.data.length() > to.size) {
                 return WRONG_LENGTH;
             }
-            file.put(place, r.data, 0, r.data.length());
+            to.put(r.place(), r.data, 0, r.data.length());
             return DONE;
         }
 
@@ -870,24 +875,25 @@ public final class ChipCard {
             if (!r.wantsBytes()) {
                 return WRONG_LENGTH;
             }
-            if (file == null) {
+            CardFile from = file;
+            if (from == null) {
                 return NO_FILE_AT_HAND;
             }
-            int asked = askRecords(file.read);
+            int asked = askRecords(from, from.read);
             if (asked != DONE) {
                 return asked;
             }
             if (!namesRecord(r)) {
                 return WRONG_PARAMETERS;
             }
-            int chosen = choose(r);
+            int chosen = choose(from, r);
             if (chosen == NONE) {
                 return NO_RECORD;
             }
-            if (r.wanted != ALL_WANTED && r.wanted != file.size) {
-                return WRONG_WANTED + file.size;
+            if (r.wanted != ALL_WANTED && r.wanted != from.size) {
+                return WRONG_WANTED + from.size;
             }
-            tellBytes(file.placeOf(chosen), file.size);
+            tellBytes(from, from.placeOf(chosen), from.size);
             keepRecord(r, chosen);
             return DONE;
         }
@@ -896,32 +902,34 @@ public final class ChipCard {
             if (!r.hasData()) {
                 return WRONG_LENGTH;
             }
-            if (file == null) {
+            CardFile to = file;
+            if (to == null) {
                 return NO_FILE_AT_HAND;
             }
-            int asked = askRecords(file.write);
+            int asked = askRecords(to, to.write);
             if (asked != DONE) {
                 return asked;
             }
-            return file.kind == RING ? writeToRing(r) : writeToRecords(r);
+            return to.kind == RING ? writeToRing(to, r) : writeToRecords(to, r);
         }
 
         int search(Request r) {
             if (!r.hasData()) {
                 return WRONG_LENGTH;
             }
-            if (file == null) {
+            CardFile in = file;
+            if (in == null) {
                 return NO_FILE_AT_HAND;
             }
-            int asked = askRecords(file.read);
+            int asked = askRecords(in, in.read);
             if (asked != DONE) {
                 return asked;
             }
             if (r.p2 != BY_NUMBER) {
                 return WRONG_PARAMETERS;
             }
-            for (int number = Math.max(r.p1, 1); number <= file.many; number++) {
-                if (file.recordHas(number, r.data)) {
+            for (int number = Math.max(r.p1, 1); number <= in.many; number++) {
+                if (in.recordHas(number, r.data)) {
                     answer.add(number);
                 }
             }
@@ -932,30 +940,30 @@ public final class ChipCard {
             return DONE;
         }
 
-        private int writeToRing(Request r) {
+        private int writeToRing(CardFile ring, Request r) {
             if (r.p2 != AHEAD || r.p1 != 0) {
                 return WRONG_PARAMETERS;
             }
-            if (file == null || r.data.length() != file.size) {
+            if (r.data.length() != ring.size) {
                 return WRONG_LENGTH;
             }
-            file.push(r.data);
+            ring.push(r.data);
             record = 1;
             return DONE;
         }
 
-        private int writeToRecords(Request r) {
+        private int writeToRecords(CardFile to, Request r) {
             if (!namesRecord(r)) {
                 return WRONG_PARAMETERS;
             }
-            int chosen = choose(r);
-            if (file == null || chosen == NONE) {
+            int chosen = choose(to, r);
+            if (chosen == NONE) {
                 return NO_RECORD;
             }
-            if (r.data.length() != file.size) {
+            if (r.data.length() != to.size) {
                 return WRONG_LENGTH;
             }
-            file.put(file.placeOf(chosen), r.data, 0, file.size);
+            to.put(to.placeOf(chosen), r.data, 0, to.size);
             keepRecord(r, chosen);
             return DONE;
         }
@@ -1008,49 +1016,46 @@ public final class ChipCard {
             answer.add(found.write);
         }
 
-        private void tellBytes(int place, int n) {
-            for (int i = 0; i < n && file != null; i++) {
-                answer.add(file.get(place + i));
+        private void tellBytes(CardFile from, int place, int n) {
+            for (int i = 0; i < n; i++) {
+                answer.add(from.get(place + i));
             }
         }
 
-        private int askBytes(int right, Request r) {
-            if (file == null || file.kind != BYTES) {
+        private int askBytes(CardFile target, int right, int place) {
+            if (target.kind != BYTES) {
                 return WRONG_KIND;
             }
             if (!secrets.allow(right)) {
                 return NO_RIGHT;
             }
-            return r.p1 * 256 + r.p2 < file.size ? DONE : WRONG_PLACE;
+            return place < target.size ? DONE : WRONG_PLACE;
         }
 
-        private int askRecords(int right) {
-            if (file == null || !file.hasRecords()) {
+        private int askRecords(CardFile target, int right) {
+            if (!target.hasRecords()) {
                 return WRONG_KIND;
             }
             return secrets.allow(right) ? DONE : NO_RIGHT;
         }
 
-        private boolean namesRecord(Request r) {
+        private static boolean namesRecord(Request r) {
             return r.p2 == BY_NUMBER || (r.p2 == NEXT || r.p2 == AHEAD) && r.p1 == 0;
         }
 
         /** The number of the record that a command is about, NONE if there is none. */
-        private int choose(Request r) {
-            if (file == null) {
-                return NONE;
-            }
-            boolean isRing = file.kind == RING;
+        private int choose(CardFile target, Request r) {
+            boolean isRing = target.kind == RING;
             if (r.p2 == NEXT) {
                 int first = isRing ? 1 : NONE;
-                return record < file.many ? record + 1 : first;
+                return record < target.many ? record + 1 : first;
             }
             if (r.p2 == AHEAD) {
-                int last = isRing || record == 0 ? file.many : NONE;
+                int last = isRing || record == 0 ? target.many : NONE;
                 return record > 1 ? record - 1 : last;
             }
             int named = r.p1 == 0 ? record : r.p1;
-            return named >= 1 && named <= file.many ? named : NONE;
+            return named >= 1 && named <= target.many ? named : NONE;
         }
 
         private void keepRecord(Request r, int chosen) {
@@ -1198,7 +1203,8 @@ public final class ChipCard {
             body.add(0x8B);
             body.addLength(6 + text.length());
             body.add(0x01);
-            body.addFour(0x000000F4);
+            body.addPair(0x0000);
+            body.addPair(0x00F4);
             body.add(text.length());
             body.addAll(text);
         }
@@ -1814,15 +1820,21 @@ public final class ChipCard {
             int chosen = NONE;
             int at = start;
             for (int i = 0; i < MOST_DATA && at < end; i++) {
-                CardFile target = files.firstOfBytes(data.getPair(at + 2));
                 if (data.get(at) == START_ORDER) {
                     chosen = data.get(at + 2);
-                } else if (target != null) {
-                    target.put(data.getPair(at + 4), data, at + 6, data.get(at + 1) - 4);
+                } else {
+                    obeyWriteOrder(data, at);
                 }
                 at = nextOrder(data, at);
             }
             return chosen;
+        }
+
+        private void obeyWriteOrder(Row data, int at) {
+            CardFile target = files.firstOfBytes(data.getPair(at + 2));
+            if (target != null) {
+                target.put(data.getPair(at + 4), data, at + 6, data.get(at + 1) - 4);
+            }
         }
     }
 }
