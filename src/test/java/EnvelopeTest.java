@@ -116,6 +116,9 @@ public final class EnvelopeTest {
         c.node(4, 0, "");
         c.card.with(2, 5, 1, -1);
         c.card.by(0, 0, 2);
+        run(c);
+        c.envelope("D7 03 A40105", 0x9000);
+        Check.same("no NODE at first", c.card.count(11), 0);
         c.card.by(1, 5, 1);
         run(c);
         c.envelope("D7 00", 0x6A88);

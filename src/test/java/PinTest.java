@@ -9,6 +9,7 @@ public final class PinTest {
         verifyRunsOut();
         change();
         unblock();
+        everyByteCounts();
         keyRunsOut();
         triesStayOverReset();
         Check.finish();
@@ -95,6 +96,20 @@ public final class PinTest {
         tries(c, 3, 10, 1);
         c.card.reset();
         c.answers("0020000108" + OTHER, "");
+    }
+
+    private static void everyByteCounts() {
+        for (int i = 0; i < 16; i += 2) {
+            Check c = new Check();
+            String wrongPin = PIN.substring(0, i) + "AA" + PIN.substring(i + 2);
+            String wrongKey = KEY.substring(0, i) + "AA" + KEY.substring(i + 2);
+            c.refused("0020000108" + wrongPin, 0x63C2);
+            c.refused("0024000110" + wrongPin + OTHER, 0x63C1);
+            c.refused("00200001", 0x63C1);
+            c.refused("002C000110" + wrongKey + OTHER, 0x63C9);
+            c.answers("0024000110" + PIN + wrongPin, "");
+            c.answers("0020000108" + wrongPin, "");
+        }
     }
 
     private static void keyRunsOut() {

@@ -307,6 +307,7 @@ public final class ProactiveTest {
         Check.same("only by FAILED", byOk.card.count(11), 0);
     }
 
+    /** This takes more than 512 calls, but there is no shorter way to FE. */
     private static void numbersWrap() {
         Check c = new Check();
         c.node(5, 0, "");

@@ -57,7 +57,8 @@ public final class ResponseTest {
     private static void lists() {
         String good = "8103012100 830100";
         String[] broken = {"00", "8000", "0000", "81", "8103", "810301", "0180", "018000", "01817F" + Check.many("00", 127),
-            "0182000100", "7F", "7F0000", "FF000001", "FF0000", "018180" + Check.many("00", 127), "0201"};
+            "0182000100", "018280" + Check.many("00", 128), "0280" + Check.many("00", 129), "02FF80" + Check.many("00", 128),
+            "7F", "7F0000", "FF000001", "FF0000", "018180" + Check.many("00", 127), "0201"};
         for (String list : broken) {
             Check c = fetched(0, 0);
             c.response(list, 0x6A80);
@@ -136,6 +137,17 @@ public final class ResponseTest {
         c.fetch();
         c.respond(0x21, 0, "00", "", 0x910B);
         Check.same("OK behind a repeat", c.card.count(12), 1);
+        Check anew = fetched(0, 0);
+        anew.card.goes(0, 0, 0);
+        for (int round = 0; round < 3; round++) {
+            anew.respond(0x21, 0, "20", "", 0x910E);
+            Check.same("PENDING again in round " + round, anew.card.count(12), 0);
+            anew.fetch();
+            anew.respond(0x21, 0, "21", "", 0x910E);
+            anew.fetch();
+            anew.respond(0x21, 0, "00", "", 0x910E);
+            anew.fetch();
+        }
         Check last = fetched(0, 0);
         last.respond(0x21, 0, "20", "", 0x910E);
         last.fetch();
