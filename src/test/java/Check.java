@@ -88,7 +88,7 @@ final class Check {
 
     /** A command with DATA, whose length is put ahead of it. */
     int send(String header, String data) {
-        return command(header + hex(bytes(data).length) + data);
+        return command(whole(header, data));
     }
 
     String out() {
@@ -107,6 +107,41 @@ final class Check {
 
     void status(String hex, int status) {
         same(hex, Integer.toHexString(command(hex)), Integer.toHexString(status));
+    }
+
+    /** A command with DATA, its length ahead of it, as the whole COMMAND. */
+    static String whole(String header, String data) {
+        return header + hex(bytes(data).length) + data;
+    }
+
+    /** All that can be looked at, but for THE TAPE, THE OUT and the bytes of FILES. */
+    String state() {
+        StringBuilder all = new StringBuilder();
+        for (int what = 0; what <= 15; what++) {
+            if (what != 3 && what != 4) {
+                all.append(what).append(": ").append(card.count(what)).append(", ");
+            }
+        }
+        for (int k = 1; k <= 8; k++) {
+            all.append(card.timer(k));
+        }
+        return all.toString();
+    }
+
+    /** The status is due, THE OUT is empty, and nothing else is another than before. */
+    void unchanged(String hex, int status) {
+        String before = state();
+        refused(hex, status);
+        same("the state behind " + hex, state(), before);
+    }
+
+    /** The exception is due, THE TAPE is empty behind it, and nothing else is another than before. */
+    void reads(String what, Class<? extends RuntimeException> due, String tape, Runnable call) {
+        String before = state();
+        tape(tape);
+        throwing(what, due, call);
+        same("THE TAPE behind " + what, card.count(4), 0);
+        same("the state behind " + what, state(), before);
     }
 
     void answers(String hex, String due) {
