@@ -3,6 +3,8 @@ final class Check {
     private static int wrong = 0;
     private static int asked = 0;
     static final String FULL_PROFILE = "FFFFFFFFFFFFFFFF";
+    static final int LOWEST = Integer.MIN_VALUE;
+    static final int HIGHEST = Integer.MAX_VALUE;
 
     final ChipCard card = new ChipCard();
 
@@ -133,6 +135,22 @@ final class Check {
         String before = state();
         refused(hex, status);
         same("the state behind " + hex, state(), before);
+    }
+
+    /** As unchanged, and FILE 1 has the bytes of before, too. */
+    void unwritten(String hex, int status) {
+        String bytes = fileBytes(1);
+        unchanged(hex, status);
+        same("FILE 1 behind " + hex, fileBytes(1), bytes);
+    }
+
+    /** Whether there is a right to do it. */
+    void may(String hex, boolean can) {
+        if (can) {
+            status(hex, 0x9000);
+        } else {
+            unwritten(hex, 0x6982);
+        }
     }
 
     /** The exception is due, THE TAPE is empty behind it, and nothing else is another than before. */

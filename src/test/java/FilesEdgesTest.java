@@ -1,8 +1,5 @@
 /** The boundary cases of term 2 and of promises 4, 5, 6 and 19: FILES are made, have rights, are filled. */
 public final class FilesEdgesTest {
-    private static final int LOWEST = Integer.MIN_VALUE;
-    private static final int HIGHEST = Integer.MAX_VALUE;
-
     public static void main(String[] args) {
         theRootIsThere();
         aboveMustBeThere();
@@ -50,7 +47,7 @@ public final class FilesEdgesTest {
     private static void aboveMustBeThere() {
         Check c = new Check();
         c.card.file(0, 0, 0x7F10, 0, 0);
-        int[] none = {LOWEST, -2, -1, 2, 3, 39, 40, HIGHEST};
+        int[] none = {Check.LOWEST, -2, -1, 2, 3, 39, 40, Check.HIGHEST};
         for (int above : none) {
             refuses(c, IndexOutOfBoundsException.class, above, 1, 1, 1, 1);
         }
@@ -71,7 +68,7 @@ public final class FilesEdgesTest {
     /** "another KIND" */
     private static void kinds() {
         Check c = new Check();
-        int[] others = {LOWEST, -1, 4, 5, HIGHEST};
+        int[] others = {Check.LOWEST, -1, 4, 5, Check.HIGHEST};
         for (int kind : others) {
             refusesArgument(c, 0, kind, 1, 1, 1);
             refusesArgument(c, 0, kind, 1, 0, 0);
@@ -83,7 +80,7 @@ public final class FilesEdgesTest {
     /** "an id not 0 .. 65535" */
     private static void ids() {
         Check c = new Check();
-        int[] others = {LOWEST, -65536, -1, 65536, 65537, 65536 + 0x3F00, HIGHEST};
+        int[] others = {Check.LOWEST, -65536, -1, 65536, 65537, 65536 + 0x3F00, Check.HIGHEST};
         for (int id : others) {
             refusesArgument(c, 0, 1, id, 1, 1);
         }
@@ -118,7 +115,7 @@ public final class FilesEdgesTest {
     /** "SIZE or MANY not 1 .. 255 (of KIND 1 SIZE 1 .. 1000 and MANY 1, of KIND 0 both 0)" */
     private static void sizes() {
         Check c = new Check();
-        int[] wrong = {LOWEST, -1, 0, 256, 257, 1000, HIGHEST};
+        int[] wrong = {Check.LOWEST, -1, 0, 256, 257, 1000, Check.HIGHEST};
         for (int kind = 2; kind <= 3; kind++) {
             for (int n : wrong) {
                 refusesArgument(c, 0, kind, 1, n, 1);
@@ -126,15 +123,15 @@ public final class FilesEdgesTest {
                 refusesArgument(c, 0, kind, 1, n, n);
             }
         }
-        int[] wrongSizes = {LOWEST, -1, 0, 1001, HIGHEST};
-        int[] wrongMany = {LOWEST, -1, 0, 2, 255, HIGHEST};
+        int[] wrongSizes = {Check.LOWEST, -1, 0, 1001, Check.HIGHEST};
+        int[] wrongMany = {Check.LOWEST, -1, 0, 2, 255, Check.HIGHEST};
         for (int n : wrongSizes) {
             refusesArgument(c, 0, 1, 1, n, 1);
         }
         for (int n : wrongMany) {
             refusesArgument(c, 0, 1, 1, 1, n);
         }
-        int[] notZero = {LOWEST, -1, 1, HIGHEST};
+        int[] notZero = {Check.LOWEST, -1, 1, Check.HIGHEST};
         for (int n : notZero) {
             refusesArgument(c, 0, 0, 1, n, 0);
             refusesArgument(c, 0, 0, 1, 0, n);
@@ -233,7 +230,7 @@ public final class FilesEdgesTest {
                 c.answers("00A40004020001", "620F 820101 83020001 80020001 8A02" + Check.hex(read) + Check.hex(write));
             }
         }
-        int[] none = {LOWEST, -1, 2, 39, 40, HIGHEST};
+        int[] none = {Check.LOWEST, -1, 2, 39, 40, Check.HIGHEST};
         for (int file : none) {
             Check.same("rights of FILE " + file, c.card.rights(file, 0, 0), false);
         }
@@ -245,7 +242,7 @@ public final class FilesEdgesTest {
         Check c = new Check();
         c.card.file(0, 1, 1, 1, 1);
         c.card.rights(1, 1, 2);
-        int[] wrong = {LOWEST, -1, 3, 4, HIGHEST};
+        int[] wrong = {Check.LOWEST, -1, 3, 4, Check.HIGHEST};
         for (int right : wrong) {
             Check.same("read " + right, c.card.rights(1, right, 0), false);
             Check.same("write " + right, c.card.rights(1, 0, right), false);
@@ -277,7 +274,7 @@ public final class FilesEdgesTest {
                 c.card.file(0, shape[0], 1, shape[1], shape[2]);
                 c.card.file(0, 1, 2, 20, 1);
                 String bytes = Check.many("5A", n);
-                int[] beyond = {LOWEST, -6, -1, 6 - n + 1, 6, 7, HIGHEST - 5, HIGHEST};
+                int[] beyond = {Check.LOWEST, -6, -1, 6 - n + 1, 6, 7, Check.HIGHEST - 5, Check.HIGHEST};
                 for (int at : beyond) {
                     refusesFill(c, IllegalArgumentException.class, 1, at, bytes);
                 }
@@ -308,7 +305,7 @@ public final class FilesEdgesTest {
         Check c = new Check();
         c.card.file(0, 0, 1, 0, 0);
         c.card.file(0, 1, 2, 2, 1);
-        int[] none = {LOWEST, -1, 0, 1, 3, 39, 40, HIGHEST};
+        int[] none = {Check.LOWEST, -1, 0, 1, 3, 39, 40, Check.HIGHEST};
         for (int file : none) {
             refusesFill(c, IndexOutOfBoundsException.class, file, 0, "41");
             refusesFill(c, IndexOutOfBoundsException.class, file, 0, "");
@@ -325,7 +322,7 @@ public final class FilesEdgesTest {
         for (int i = 0; i < shapes.length; i++) {
             int file = c.card.file(0, shapes[i][0], i, shapes[i][1], shapes[i][2]);
             int total = shapes[i][1] * shapes[i][2];
-            int[] none = {LOWEST, -total, -1, total, total + 1, HIGHEST};
+            int[] none = {Check.LOWEST, -total, -1, total, total + 1, Check.HIGHEST};
             for (int place : none) {
                 Check.same("byteOf(" + file + ", " + place + ")", c.card.byteOf(file, place), ChipCard.NONE);
             }
@@ -335,7 +332,7 @@ public final class FilesEdgesTest {
             Check.same("the first one", c.card.byteOf(file, 0), total == 1 ? 0 : 255);
         }
         c.card.file(0, 0, 9, 0, 0);
-        int[] noFile = {LOWEST, -1, 0, 5, 6, 39, 40, HIGHEST};
+        int[] noFile = {Check.LOWEST, -1, 0, 5, 6, 39, 40, Check.HIGHEST};
         for (int file : noFile) {
             Check.same("byteOf(" + file + ", 0)", c.card.byteOf(file, 0), ChipCard.NONE);
         }

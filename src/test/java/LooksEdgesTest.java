@@ -2,9 +2,6 @@ import java.util.NoSuchElementException;
 
 /** The boundary cases of promises 1, 14, 16, 17 and 18: a new object, reset, out, count and timer. */
 public final class LooksEdgesTest {
-    private static final int LOWEST = Integer.MIN_VALUE;
-    private static final int HIGHEST = Integer.MAX_VALUE;
-
     public static void main(String[] args) {
         aNewObjectIsBare();
         twoObjectsShareNothing();
@@ -172,7 +169,7 @@ public final class LooksEdgesTest {
             c.status("00B00000" + Check.hex(n & 0xFF), 0x9000);
             Check.same("first", c.card.out(0), 0x7F);
             Check.same("last", c.card.out(n - 1), n == 1 ? 0x7F : n == 2 ? 0x80 : n == 256 ? 0 : 255);
-            int[] none = {LOWEST, -n, -1, n, n + 1, HIGHEST};
+            int[] none = {Check.LOWEST, -n, -1, n, n + 1, Check.HIGHEST};
             for (int i : none) {
                 Check.throwing("out(" + i + ") of " + n, NoSuchElementException.class, () -> c.card.out(i));
             }
@@ -195,7 +192,7 @@ public final class LooksEdgesTest {
 
     /** "NONE for another what" */
     private static void countOfAnotherWhat() {
-        int[] others = {LOWEST, -16, -2, -1, 16, 17, 255, HIGHEST};
+        int[] others = {Check.LOWEST, -16, -2, -1, 16, 17, 255, Check.HIGHEST};
         for (int what : others) {
             Check.same("count(" + what + ")", new ChipCard().count(what), ChipCard.NONE);
         }
@@ -282,7 +279,7 @@ public final class LooksEdgesTest {
             for (int other = 1; other <= 8; other++) {
                 Check.same("TIMER " + other, c.card.timer(other), other == k ? 1 : 0);
             }
-            int[] none = {LOWEST, -8, -1, 0, 9, 10, HIGHEST};
+            int[] none = {Check.LOWEST, -8, -1, 0, 9, 10, Check.HIGHEST};
             for (int other : none) {
                 Check.same("TIMER " + other, c.card.timer(other), ChipCard.NONE);
             }

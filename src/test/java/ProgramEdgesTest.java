@@ -1,9 +1,7 @@
 /** The boundary cases of promises 7 to 13: NODES, ITEMS, the title and where all of them GO. */
 public final class ProgramEdgesTest {
-    private static final int LOWEST = Integer.MIN_VALUE;
-    private static final int HIGHEST = Integer.MAX_VALUE;
     /** What is no NODE where there are just the NODES 0 and 1, and is not NONE. */
-    private static final int[] NO_NODE = {LOWEST, -3, -2, 2, 3, 39, 40, HIGHEST};
+    private static final int[] NO_NODE = {Check.LOWEST, -3, -2, 2, 3, 39, 40, Check.HIGHEST};
 
     public static void main(String[] args) {
         sorts();
@@ -45,7 +43,7 @@ public final class ProgramEdgesTest {
     /** "A NODE of a SORT 0 .. 7 ... IllegalArgumentException: another one" */
     private static void sorts() {
         Check c = new Check();
-        int[] others = {LOWEST, -2, -1, 8, 9, 0x21, HIGHEST};
+        int[] others = {Check.LOWEST, -2, -1, 8, 9, 0x21, Check.HIGHEST};
         for (int sort : others) {
             refusesNode(c, IllegalArgumentException.class, sort, 0, "");
         }
@@ -61,7 +59,7 @@ public final class ProgramEdgesTest {
     /** "with a QUALIFIER 0 .. 255" */
     private static void qualifiers() {
         Check c = new Check();
-        int[] others = {LOWEST, -256, -1, 256, 257, 512, HIGHEST};
+        int[] others = {Check.LOWEST, -256, -1, 256, 257, 512, Check.HIGHEST};
         for (int qualifier : others) {
             refusesNode(c, IllegalArgumentException.class, 5, qualifier, "");
         }
@@ -146,7 +144,7 @@ public final class ProgramEdgesTest {
     private static void identifiers() {
         for (int node = -1; node <= 0; node++) {
             Check c = twoChoices();
-            int[] wrong = {LOWEST, -255, -1, 0, 256, 257, HIGHEST};
+            int[] wrong = {Check.LOWEST, -255, -1, 0, 256, 257, Check.HIGHEST};
             for (int identifier : wrong) {
                 refusesItem(c, IllegalArgumentException.class, node, identifier, "");
                 Check.same("no ITEM came", c.card.pick(node, identifier, 0), false);
@@ -288,15 +286,15 @@ public final class ProgramEdgesTest {
     private static void refusedWithLeavesAll() {
         Check c = timerAndInput();
         c.card.with(1, 3, 4, 1);
-        int[] noNode = {LOWEST, -2, -1, 2, 39, 40, HIGHEST};
+        int[] noNode = {Check.LOWEST, -2, -1, 2, 39, 40, Check.HIGHEST};
         for (int node : noNode) {
             Check.same("NODE " + node, c.card.with(node, 5, 6, 2), false);
         }
-        int[] noFile = {LOWEST, -3, -2, 3, 39, 40, HIGHEST};
+        int[] noFile = {Check.LOWEST, -3, -2, 3, 39, 40, Check.HIGHEST};
         for (int file : noFile) {
             Check.same("FILE " + file, c.card.with(1, 5, 6, file), false);
         }
-        int[] noByte = {LOWEST, -256, -1, 256, 257, HIGHEST};
+        int[] noByte = {Check.LOWEST, -256, -1, 256, 257, Check.HIGHEST};
         for (int n : noByte) {
             Check.same("LEAST " + n, c.card.with(1, n, 6, 2), false);
             Check.same("MOST " + n, c.card.with(1, 5, n, 2), false);
@@ -366,7 +364,7 @@ public final class ProgramEdgesTest {
             }
             Check.same("goes of NONE", c.card.goes(ChipCard.NONE, outcome, 0), false);
         }
-        int[] noOutcome = {LOWEST, -2, -1, 4, 5, HIGHEST};
+        int[] noOutcome = {Check.LOWEST, -2, -1, 4, 5, Check.HIGHEST};
         for (int outcome : noOutcome) {
             Check.same("goes by " + outcome, c.card.goes(0, outcome, 0), false);
             Check.same("goes by " + outcome, c.card.goes(0, outcome, -1), false);
@@ -434,7 +432,7 @@ public final class ProgramEdgesTest {
                 Check.same("pick to " + none, c.card.pick(node, 1, none), false);
                 Check.same("pick of " + none, c.card.pick(none, 1, 0), false);
             }
-            int[] noItem = {LOWEST, -1, 0, 2, 254, 256, 257, HIGHEST};
+            int[] noItem = {Check.LOWEST, -1, 0, 2, 254, 256, 257, Check.HIGHEST};
             for (int identifier : noItem) {
                 Check.same("pick of ITEM " + identifier, c.card.pick(node, identifier, 0), false);
             }
@@ -503,17 +501,17 @@ public final class ProgramEdgesTest {
             Check.same("EVENT's NODE " + none, c.card.by(0, 0, none), false);
             Check.same("TIMER's NODE " + none, c.card.by(1, 1, none), false);
         }
-        int[] noEvent = {LOWEST, -2, -1, 32, 33, 255, HIGHEST};
+        int[] noEvent = {Check.LOWEST, -2, -1, 32, 33, 255, Check.HIGHEST};
         for (int k : noEvent) {
             Check.same("EVENT " + k, c.card.by(0, k, 0), false);
             Check.same("EVENT " + k, c.card.by(0, k, -1), false);
         }
-        int[] noTimer = {LOWEST, -1, 0, 9, 10, 31, HIGHEST};
+        int[] noTimer = {Check.LOWEST, -1, 0, 9, 10, 31, Check.HIGHEST};
         for (int k : noTimer) {
             Check.same("TIMER " + k, c.card.by(1, k, 0), false);
             Check.same("TIMER " + k, c.card.by(1, k, -1), false);
         }
-        int[] others = {LOWEST, -1, 2, 3, HIGHEST};
+        int[] others = {Check.LOWEST, -1, 2, 3, Check.HIGHEST};
         for (int what : others) {
             Check.same("what " + what, c.card.by(what, 1, 0), false);
         }

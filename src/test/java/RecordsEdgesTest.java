@@ -123,16 +123,6 @@ public final class RecordsEdgesTest {
         Check.same("nothing is written", c.fileBytes(1), "FFFF");
     }
 
-    private static void may(Check c, String hex, boolean can) {
-        String bytes = c.fileBytes(1);
-        if (can) {
-            c.status(hex, 0x9000);
-        } else {
-            c.unchanged(hex, 0x6982);
-            Check.same("nothing is written", c.fileBytes(1), bytes);
-        }
-    }
-
     /** "6982", of SEARCH "6982 (READ)" */
     private static void rights() {
         for (int kind = RECORDS; kind <= RING; kind++) {
@@ -142,13 +132,13 @@ public final class RecordsEdgesTest {
                 for (int verified = 0; verified <= 1; verified++) {
                     boolean can = right == 0 || right == 1 && verified == 1;
                     c.card.rights(1, right, 0);
-                    may(c, write, true);
-                    may(c, read(1, 4), can);
-                    may(c, search(0, "EE"), can);
+                    c.may(write, true);
+                    c.may(read(1, 4), can);
+                    c.may(search(0, "EE"), can);
                     c.card.rights(1, 0, right);
-                    may(c, write, can);
-                    may(c, read(1, 4), true);
-                    may(c, search(0, "EE"), true);
+                    c.may(write, can);
+                    c.may(read(1, 4), true);
+                    c.may(search(0, "EE"), true);
                     c.answers(PIN, "");
                 }
             }

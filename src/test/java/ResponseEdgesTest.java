@@ -66,10 +66,8 @@ public final class ResponseEdgesTest {
     }
 
     private static void refuses(Check c, String hex, int due) {
-        String bytes = c.fileBytes(1);
-        c.unchanged(hex, due);
+        c.unwritten(hex, due);
         Check.same("still FETCHED", c.card.count(11), 2);
-        Check.same("nothing is written", c.fileBytes(1), bytes);
     }
 
     private static void goesTo(Check c, String hex, int node) {

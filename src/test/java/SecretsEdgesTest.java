@@ -14,6 +14,7 @@ public final class SecretsEdgesTest {
         lengthsOfVerify();
         lengthsOfChangeAndUnblock();
         verifyWithoutData();
+        everyByteOfASecretCounts();
         triesOfVerify();
         triesOfChange();
         triesOfUnblock();
@@ -138,6 +139,18 @@ public final class SecretsEdgesTest {
         look("looking costs nothing:", c, 3, 10, 1);
         c.card.reset();
         c.unchanged(VERIFY, 0x63C3);
+    }
+
+    private static void everyByteOfASecretCounts() {
+        for (int i = 0; i < 16; i += 2) {
+            Check c = new Check();
+            c.refused(verify(PIN.substring(0, i) + "35" + PIN.substring(i + 2)), 0x63C2);
+            c.refused(change(PIN.substring(0, i) + "35" + PIN.substring(i + 2), NEW), 0x63C1);
+            c.refused(unblock(KEY.substring(0, i) + "35" + KEY.substring(i + 2), NEW), 0x63C9);
+            c.answers(change(PIN, NEW.substring(0, i) + "35" + NEW.substring(i + 2)), "");
+            c.refused(verify(NEW), 0x63C2);
+            c.answers(verify(NEW.substring(0, i) + "35" + NEW.substring(i + 2)), "");
+        }
     }
 
     /** "6983: no TRIES. 63CX: not the PIN: one TRY less, X are left" */

@@ -172,6 +172,7 @@ public final class TlvEdgesTest {
                     refuses(c, kind, "02" + Check.hex(first) + "0001" + "00" + GOOD[kind], WRONG);
                     if (first <= 0xE0) {
                         refuses(c, kind, "02" + Check.hex(first) + Check.many("02", first) + GOOD[kind], WRONG);
+                        refuses(c, kind, "02" + Check.hex(first) + Check.many("02", first + 1) + GOOD[kind], WRONG);
                     }
                 }
             }
