@@ -336,7 +336,7 @@ public final class ResponseEdgesTest {
         Check.same("the FILE behind " + tags, c.fileBytes(1), due);
     }
 
-    /** "The bytes behind the first one of 0D (none, if it has none ...) are the first ones of the FILE ... what is behind them there is FF" */
+    /** "The bytes behind the first one of 0D (none, if it has none ..., what is behind them there is FF" */
     private static void inputFillsItsFile() {
         fills(1, "8D00", "FFFFFFFF");
         fills(1, "8D0104", "FFFFFFFF");
