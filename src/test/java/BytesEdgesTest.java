@@ -93,6 +93,8 @@ public final class BytesEdgesTest {
             c.unchanged(read(9, 0), 0x6981);
             c.unchanged(write(0, "AA"), 0x6981);
             c.unchanged(write(9, "AA"), 0x6981);
+            c.unchanged("00B00000", 0x6700);
+            c.unchanged("00D60000", 0x6700);
             Check.same("nothing is written", c.fileBytes(1), "FFFFFFFF");
         }
     }

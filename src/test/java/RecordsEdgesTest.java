@@ -3,6 +3,8 @@ public final class RecordsEdgesTest {
     private static final int RECORDS = 2;
     private static final int RING = 3;
     private static final String PIN = "002000010831323334FFFFFFFF";
+    /** READ RECORD without E, WRITE RECORD and SEARCH without DATA: asked ahead of all else. */
+    private static final String[] WITHOUT = {"00B20104", "00B2010401AA", "00DC0104", "00DC010402", "00A20004", "00A2000401"};
 
     public static void main(String[] args) {
         readNeedsE();
@@ -107,6 +109,9 @@ public final class RecordsEdgesTest {
         for (String hex : commands) {
             c.unchanged(hex, 0x6986);
         }
+        for (String hex : WITHOUT) {
+            c.unchanged(hex, 0x6700);
+        }
         Check.same("nothing is written", c.fileBytes(1), all(3));
     }
 
@@ -119,6 +124,9 @@ public final class RecordsEdgesTest {
         String[] commands = {read(1, 4), read(9, 9), write(1, 4), write(9, 9), write(0, 3), search(0, "FF"), "00A2090901FF"};
         for (String hex : commands) {
             c.unchanged(hex, 0x6981);
+        }
+        for (String hex : WITHOUT) {
+            c.unchanged(hex, 0x6700);
         }
         Check.same("nothing is written", c.fileBytes(1), "FFFF");
     }
