@@ -116,8 +116,8 @@ final class Check {
         return header + hex(bytes(data).length) + data;
     }
 
-    /** All that can be looked at, but for THE TAPE, THE OUT and the bytes of FILES. */
-    String state() {
+    /** Each count but those of THE TAPE and THE OUT, and each TIMER. */
+    String counts() {
         StringBuilder all = new StringBuilder();
         for (int what = 0; what <= 15; what++) {
             if (what != 3 && what != 4) {
@@ -130,6 +130,15 @@ final class Check {
         return all.toString();
     }
 
+    /** All that can be looked at, but for THE TAPE and THE OUT. */
+    String state() {
+        StringBuilder all = new StringBuilder(counts());
+        for (int file = 0; file < card.count(0); file++) {
+            all.append(", FILE ").append(file).append(": ").append(fileBytes(file));
+        }
+        return all.toString();
+    }
+
     /** The status is due, THE OUT is empty, and nothing else is another than before. */
     void unchanged(String hex, int status) {
         String before = state();
@@ -137,19 +146,12 @@ final class Check {
         same("the state behind " + hex, state(), before);
     }
 
-    /** As unchanged, and FILE 1 has the bytes of before, too. */
-    void unwritten(String hex, int status) {
-        String bytes = fileBytes(1);
-        unchanged(hex, status);
-        same("FILE 1 behind " + hex, fileBytes(1), bytes);
-    }
-
     /** Whether there is a right to do it. */
     void may(String hex, boolean can) {
         if (can) {
             status(hex, 0x9000);
         } else {
-            unwritten(hex, 0x6982);
+            unchanged(hex, 0x6982);
         }
     }
 

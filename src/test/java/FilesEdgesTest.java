@@ -351,7 +351,7 @@ public final class FilesEdgesTest {
         c.answers("002000010831323334FFFFFFFF", "");
         c.profile(Check.FULL_PROFILE, 0x9000);
         c.event(0, 0x910E);
-        String before = c.state();
+        String before = c.counts();
         c.card.rights(2, 2, 2);
         c.tape("41");
         c.card.fill(2, 0);
@@ -361,7 +361,7 @@ public final class FilesEdgesTest {
         c.card.by(1, 1, 0);
         c.tape("41");
         c.card.title();
-        Check.same("at hand, VERIFIED, PENDING", c.state(), before);
+        Check.same("at hand, VERIFIED, PENDING", c.counts(), before);
         c.card.file(1, 1, 0x6F02, 1, 1);
         c.node(2, 0, "");
         c.item(-1, 1, "");

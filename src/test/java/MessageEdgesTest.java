@@ -67,11 +67,11 @@ public final class MessageEdgesTest {
 
     private static void messageIsNeeded() {
         Check c = ready();
-        c.unwritten(envelope(""), 0x6A88);
-        c.unwritten(envelope("8200"), 0x6A88);
-        c.unwritten(envelope("8600"), 0x6A88);
-        c.unwritten(envelope("0D00"), 0x6A88);
-        c.unwritten(envelope("8B00"), 0x6A80);
+        c.unchanged(envelope(""), 0x6A88);
+        c.unchanged(envelope("8200"), 0x6A88);
+        c.unchanged(envelope("8600"), 0x6A88);
+        c.unchanged(envelope("0D00"), 0x6A88);
+        c.unchanged(envelope("8B00"), 0x6A80);
         done(c, message(HEAD + "00"), "FFFFFFFF");
     }
 
@@ -79,10 +79,10 @@ public final class MessageEdgesTest {
     private static void otherKnownTags() {
         Check c = ready();
         done(c, envelope("8600 8200" + tlv("0B", HEAD + "00") + "0600 8B00"), "FFFFFFFF");
-        c.unwritten(envelope("8600" + tlv("8B", HEAD + "00") + "8700"), 0x6A81);
-        c.unwritten(envelope("8500" + tlv("8B", HEAD + "00")), 0x6A81);
-        c.unwritten(envelope("8500 8B00"), 0x6A81);
-        c.unwritten(envelope("0B00" + tlv("8B", HEAD + "00")), 0x6A80);
+        c.unchanged(envelope("8600" + tlv("8B", HEAD + "00") + "8700"), 0x6A81);
+        c.unchanged(envelope("8500" + tlv("8B", HEAD + "00")), 0x6A81);
+        c.unchanged(envelope("8500 8B00"), 0x6A81);
+        c.unchanged(envelope("0B00" + tlv("8B", HEAD + "00")), 0x6A80);
     }
 
     /** "Its bytes (6A80 where it is not just so)" */
@@ -91,11 +91,11 @@ public final class MessageEdgesTest {
         String whole = ("40 03 91 2143 7F" + EIGHT + "0B 02 7071 C0 06 6F01 0001 1112").replace(" ", "");
         for (int n = 0; n < whole.length() / 2; n++) {
             String part = whole.substring(0, 2 * n);
-            c.unwritten(message(part), 0x6A80);
-            c.unwritten(envelope(tlv("8B", part) + "0201C0"), 0x6A80);
+            c.unchanged(message(part), 0x6A80);
+            c.unchanged(envelope(tlv("8B", part) + "0201C0"), 0x6A80);
         }
-        c.unwritten(message(whole + "00"), 0x6A80);
-        c.unwritten(message(whole + "C10100"), 0x6A80);
+        c.unchanged(message(whole + "00"), 0x6A80);
+        c.unchanged(message(whole + "C10100"), 0x6A80);
         done(c, message(whole), "FF1112FF");
     }
 
@@ -106,9 +106,9 @@ public final class MessageEdgesTest {
             int bytes = (n + 1) / 2;
             String start = "00" + Check.hex(n) + "91";
             done(c, message(start + Check.many("00", bytes) + "7F" + EIGHT + "00"), "FFFFFFFF");
-            c.unwritten(message(start + Check.many("00", bytes + 1) + "7F" + EIGHT + "00"), 0x6A80);
+            c.unchanged(message(start + Check.many("00", bytes + 1) + "7F" + EIGHT + "00"), 0x6A80);
             if (bytes > 0) {
-                c.unwritten(message(start + Check.many("00", bytes - 1) + "7F" + EIGHT + "00"), 0x6A80);
+                c.unchanged(message(start + Check.many("00", bytes - 1) + "7F" + EIGHT + "00"), 0x6A80);
             }
         }
         for (int any = 0; any <= 255; any += 17) {
@@ -120,11 +120,11 @@ public final class MessageEdgesTest {
         Check c = ready();
         for (int b = 0; b <= 255; b++) {
             if (b != 0x7F) {
-                c.unwritten(message("00 00 91" + Check.hex(b) + EIGHT + "00"), 0x6A80);
+                c.unchanged(message("00 00 91" + Check.hex(b) + EIGHT + "00"), 0x6A80);
             }
         }
-        c.unwritten(message("00 00 91 7F" + EIGHT + "0900"), 0x6A80);
-        c.unwritten(message("00 00 91 7F" + EIGHT.substring(2) + "00"), 0x6A80);
+        c.unchanged(message("00 00 91 7F" + EIGHT + "0900"), 0x6A80);
+        c.unchanged(message("00 00 91 7F" + EIGHT.substring(2) + "00"), 0x6A80);
         done(c, message("00 00 91 7F" + Check.many("7F", 8) + "00"), "FFFFFFFF");
     }
 
@@ -134,12 +134,12 @@ public final class MessageEdgesTest {
         String order = "C0 06 6F01 0000 0102";
         for (int n = 0; n <= 255; n++) {
             if (n != 8) {
-                c.unwritten(message(HEAD + Check.hex(n) + order), 0x6A80);
+                c.unchanged(message(HEAD + Check.hex(n) + order), 0x6A80);
             }
         }
-        c.unwritten(message(HEAD), 0x6A80);
-        c.unwritten(message(HEAD + "01"), 0x6A80);
-        c.unwritten(message(HEAD + "0000"), 0x6A80);
+        c.unchanged(message(HEAD), 0x6A80);
+        c.unchanged(message(HEAD + "01"), 0x6A80);
+        c.unchanged(message(HEAD + "0000"), 0x6A80);
         done(c, message(HEAD + "00"), "FFFFFFFF");
         done(c, message(HEAD + "08" + order), "0102FFFF");
     }
@@ -152,7 +152,7 @@ public final class MessageEdgesTest {
             boolean has = (f & 0x40) != 0;
             String withHead = message(Check.hex(f) + rest + "09" + "00" + "C006 6F01 0000 0102");
             String without = message(Check.hex(f) + rest + "08" + "C006 6F01 0000 0102");
-            c.unwritten(has ? without : withHead, 0x6A80);
+            c.unchanged(has ? without : withHead, 0x6A80);
             done(c, has ? withHead : without, "0102FFFF");
         }
     }
@@ -160,14 +160,14 @@ public final class MessageEdgesTest {
     private static void lengthsOfTheHead() {
         String start = "40 00 91 7F" + EIGHT;
         Check c = ready();
-        c.unwritten(message(start + "00"), 0x6A80);
+        c.unchanged(message(start + "00"), 0x6A80);
         done(c, message(start + "0100"), "FFFFFFFF");
-        c.unwritten(message(start + "0101"), 0x6A80);
+        c.unchanged(message(start + "0101"), 0x6A80);
         done(c, message(start + "020100"), "FFFFFFFF");
-        c.unwritten(message(start + "020200"), 0x6A80);
-        c.unwritten(message(start + "020000"), 0x6A80);
-        c.unwritten(message(start + "01FF"), 0x6A80);
-        c.unwritten(envelope(tlv("8B", start + "0101") + "0200"), 0x6A80);
+        c.unchanged(message(start + "020200"), 0x6A80);
+        c.unchanged(message(start + "020000"), 0x6A80);
+        c.unchanged(message(start + "01FF"), 0x6A80);
+        c.unchanged(envelope(tlv("8B", start + "0101") + "0200"), 0x6A80);
         for (int h = 0; h <= 200; h += 50) {
             String follows = Check.hex(h) + Check.many("C5", h) + "C005 6F01 0003" + Check.hex(h);
             done(c, message(start + Check.hex(Check.bytes(follows).length) + follows), "FFFFFF" + Check.hex(h));
@@ -179,12 +179,12 @@ public final class MessageEdgesTest {
         Check c = ready();
         for (int b = 0; b <= 255; b++) {
             if (b != 0xC0 && b != 0xC1) {
-                c.unwritten(orders(Check.hex(b) + "00"), 0x6A80);
-                c.unwritten(orders(Check.hex(b) + "0100"), 0x6A80);
-                c.unwritten(orders(Check.hex(b) + "066F0100000102"), 0x6A80);
+                c.unchanged(orders(Check.hex(b) + "00"), 0x6A80);
+                c.unchanged(orders(Check.hex(b) + "0100"), 0x6A80);
+                c.unchanged(orders(Check.hex(b) + "066F0100000102"), 0x6A80);
             }
         }
-        c.unwritten(orders("00"), 0x6A80);
+        c.unchanged(orders("00"), 0x6A80);
     }
 
     /** "ORDERS, each a byte, a length 00 .. FF, so many bytes" */
@@ -193,8 +193,8 @@ public final class MessageEdgesTest {
         String[] cut = {"C0", "C1", "C005", "C0056F", "C0056F010000", "C101", "C10100C1", "C10100C101", "C0056F01000001C0",
             "C0FF6F01000001", "C1FF00", "C0046F010000C0046F01"};
         for (String o : cut) {
-            c.unwritten(orders(o), 0x6A80);
-            c.unwritten(envelope(tlv("8B", HEAD + Check.hex(o.length() / 2) + o) + "0202C100"), 0x6A80);
+            c.unchanged(orders(o), 0x6A80);
+            c.unchanged(envelope(tlv("8B", HEAD + Check.hex(o.length() / 2) + o) + "0202C100"), 0x6A80);
         }
     }
 
@@ -205,12 +205,12 @@ public final class MessageEdgesTest {
         for (int n = 0; n <= 8; n++) {
             String order = orders("C0" + Check.hex(n) + bytes.substring(0, 2 * n));
             if (n < 4) {
-                c.unwritten(order, 0x6A80);
+                c.unchanged(order, 0x6A80);
             } else {
                 done(c, order, bytes.substring(8, 2 * n) + Check.many("FF", 8 - n));
             }
         }
-        c.unwritten(orders("C009" + bytes + "05"), 0x6B00);
+        c.unchanged(orders("C009" + bytes + "05"), 0x6B00);
     }
 
     /** "the first FILE of the id, of KIND 1 ... (6A82: there is none" */
@@ -223,9 +223,9 @@ public final class MessageEdgesTest {
         c.card.file(2, 1, 0x0000, 4, 1);
         String[] none = {"3F00", "7F10", "6F03", "6F04", "6F00", "6F02", "016F", "FFFE", "0001"};
         for (String id : none) {
-            c.unwritten(orders("C005" + id + "000011"), 0x6A82);
-            c.unwritten(orders("C004" + id + "0000"), 0x6A82);
-            c.unwritten(orders("C005" + id + "FFFF11"), 0x6A82);
+            c.unchanged(orders("C005" + id + "000011"), 0x6A82);
+            c.unchanged(orders("C004" + id + "0000"), 0x6A82);
+            c.unchanged(orders("C005" + id + "FFFF11"), 0x6A82);
         }
         c.answers(orders("C005FFFF000311"), "");
         c.answers(orders("C0050000000222"), "");
@@ -244,10 +244,10 @@ public final class MessageEdgesTest {
         c.status("00A4080C047F106F01", 0x9000);
         done(c, orders("C0056F01000011"), "11FFFFFF");
         Check.same("not the one at hand", c.fileBytes(3), Check.many("FF", 8));
-        c.unwritten(orders("C0056F01000411"), 0x6B00);
+        c.unchanged(orders("C0056F01000411"), 0x6B00);
         c.answers(orders("C0056F05000122"), "");
         Check.same("the first one made", c.fileBytes(5), "FF22");
-        c.unwritten(orders("C0056F05000222"), 0x6B00);
+        c.unchanged(orders("C0056F05000222"), 0x6B00);
         Check.same("not the later one", c.fileBytes(6), Check.many("FF", 8));
     }
 
@@ -260,9 +260,9 @@ public final class MessageEdgesTest {
             c.profile("00", 0x9000);
             int[] beyond = {size, size + 1, 0x7FFF, 0x8000, 0xFFFF};
             for (int place : beyond) {
-                c.unwritten(orders("C0050001" + String.format("%04X", place) + "11"), 0x6B00);
+                c.unchanged(orders("C0050001" + String.format("%04X", place) + "11"), 0x6B00);
             }
-            c.unwritten(orders("C0060001" + String.format("%04X", size - 1) + "1112"), 0x6B00);
+            c.unchanged(orders("C0060001" + String.format("%04X", size - 1) + "1112"), 0x6B00);
             done(c, orders("C0050001" + String.format("%04X", size - 1) + "11"), Check.many("FF", size - 1) + "11");
             done(c, orders("C00500010000" + "22"), size == 1 ? "22" : "22" + Check.many("FF", size - 2) + "11");
         }
@@ -273,8 +273,8 @@ public final class MessageEdgesTest {
         for (int place = 0; place <= 4; place++) {
             done(c, orders("C0046F01000" + place), "FFFFFFFF");
         }
-        c.unwritten(orders("C0046F010005"), 0x6B00);
-        c.unwritten(orders("C0046F01FFFF"), 0x6B00);
+        c.unchanged(orders("C0046F010005"), 0x6B00);
+        c.unchanged(orders("C0046F01FFFF"), 0x6B00);
     }
 
     /** As many bytes as a COMMAND has room for. */
@@ -286,7 +286,7 @@ public final class MessageEdgesTest {
             String hex = orders("C0EA00010000" + Check.many("44", 230));
             Check.same("all of a COMMAND", Check.bytes(hex).length, 260);
             if (size < 230) {
-                c.unwritten(hex, 0x6B00);
+                c.unchanged(hex, 0x6B00);
             } else {
                 done(c, hex, Check.many("44", 230) + Check.many("FF", size - 230));
             }
@@ -305,10 +305,10 @@ public final class MessageEdgesTest {
     /** "C1: a byte" */
     private static void lengthsOfStartOrders() {
         Check c = ready();
-        c.unwritten(orders("C100"), 0x6A80);
-        c.unwritten(orders("C1020000"), 0x6A80);
-        c.unwritten(orders("C103000000"), 0x6A80);
-        c.unwritten(orders("C1020900"), 0x6A80);
+        c.unchanged(orders("C100"), 0x6A80);
+        c.unchanged(orders("C1020000"), 0x6A80);
+        c.unchanged(orders("C103000000"), 0x6A80);
+        c.unchanged(orders("C1020900"), 0x6A80);
         c.status(orders("C10100"), 0x910B);
         Check.same("NODE 0", c.card.count(12), 0);
     }
@@ -319,8 +319,8 @@ public final class MessageEdgesTest {
         c.card.file(0, 1, 0x6F01, 4, 1);
         c.profile("02", 0x9000);
         for (int nodes = 0; nodes <= 40; nodes++) {
-            c.unwritten(orders("C101" + Check.hex(nodes)), 0x6A82);
-            c.unwritten(orders("C101FF"), 0x6A82);
+            c.unchanged(orders("C101" + Check.hex(nodes)), 0x6A82);
+            c.unchanged(orders("C101FF"), 0x6A82);
             if (nodes > 0) {
                 c.status(orders("C101" + Check.hex(nodes - 1)), 0x910B);
                 Check.same("the last one", c.card.count(12), nodes - 1);
@@ -351,7 +351,7 @@ public final class MessageEdgesTest {
         Check c = ready();
         c.status(orders("C10100 C0056F01000011 C0056F01000322"), 0x910B);
         Check.same("what stands behind it is written", c.fileBytes(1), "11FFFF22");
-        c.unwritten(orders("C0056F01000033"), 0x9300);
+        c.unchanged(orders("C0056F01000033"), 0x9300);
     }
 
     /** "All is asked ahead, ORDER by ORDER" */
@@ -361,11 +361,11 @@ public final class MessageEdgesTest {
         int[] due = {0x6A82, 0x6B00, 0x6A82, 0x6A80, 0x6A80};
         for (int i = 0; i < wrong.length; i++) {
             for (int k = 0; k < wrong.length; k++) {
-                c.unwritten(orders(wrong[i] + wrong[k]), due[i]);
-                c.unwritten(orders("C0056F01000011" + wrong[i] + wrong[k]), due[i]);
+                c.unchanged(orders(wrong[i] + wrong[k]), due[i]);
+                c.unchanged(orders("C0056F01000011" + wrong[i] + wrong[k]), due[i]);
             }
         }
-        c.unwritten(orders("C0056F99000411"), 0x6A82);
+        c.unchanged(orders("C0056F99000411"), 0x6A82);
     }
 
     /** "before anything is written" */
@@ -393,6 +393,6 @@ public final class MessageEdgesTest {
         Check.same("the last one of 78", c.card.count(12), 0);
         c.profile(Check.FULL_PROFILE, 0x9000);
         done(c, orders(Check.many("C0046F010000", 38) + "C0056F01000377"), "FFFFFF77");
-        c.unwritten(orders(Check.many("C0046F010000", 38) + "C10102"), 0x6A82);
+        c.unchanged(orders(Check.many("C0046F010000", 38) + "C10102"), 0x6A82);
     }
 }

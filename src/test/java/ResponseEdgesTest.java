@@ -66,7 +66,7 @@ public final class ResponseEdgesTest {
     }
 
     private static void refuses(Check c, String hex, int due) {
-        c.unwritten(hex, due);
+        c.unchanged(hex, due);
         Check.same("still FETCHED", c.card.count(11), 2);
     }
 
